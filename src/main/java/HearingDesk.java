@@ -676,7 +676,6 @@ public final class HearingDesk {
                 }
                 if (quiet == gap || looked == MOST_LOOKED) {
                     looked = 0;
-                    quiet = 0;
                 }
             }
         }

@@ -8,7 +8,7 @@ public final class FrequenciesTest {
         powersAreThoseOfATransform();
         levelsAreLogarithms();
         silence();
-        aroundTheFloor();
+        edgesOfTheLogarithm();
         exactAnswers();
         refused();
         due.end();
@@ -79,17 +79,27 @@ public final class FrequenciesTest {
         due.same("power(1, 5) of silence", desk.power(1, 5), 0.0);
     }
 
-    /** A tone in band 2 alone; its sum is near 96 a a, so a near 1.02e-6 brings it to the floor. */
-    private static void aroundTheFloor() {
+    /** Around the floor, and where LN begins to halve or to double. */
+    private static void edgesOfTheLogarithm() {
         double floor = PlainModel.ln(1e-10);
-        for (double a : new double[] {9e-7, 1.0e-6, 1.02e-6, 1.03e-6, 1.2e-6}) {
-            HearingDesk desk = new HearingDesk();
-            PlainModel model = new PlainModel();
-            desk.wave(32, 6, a);
-            model.wave(32, 6, a);
-            due.same("level(0, 2) of " + a, desk.level(0, 2), model.level(0, 2));
-            due.same("it is above the floor", desk.level(0, 2) > floor ? 1 : 0, 96 * a * a > 1e-10 ? 1 : 0);
+        for (double bound : new double[] {Math.nextUp(1e-10), 0.75, 1.5, 3.0, 0.375}) {
+            double a = Edge.at(bound, 1e-7, 10.0, x -> bandTwo(tone(x)));
+            for (double x : new double[] {a, Math.nextDown(a), Math.nextUp(a), 0.999 * a, 1.001 * a}) {
+                HearingDesk desk = tone(x);
+                double sum = bandTwo(desk);
+                due.same("level(0, 2) of " + x, desk.level(0, 2), sum > 1e-10 ? PlainModel.ln(sum) : floor);
+            }
         }
+    }
+
+    private static HearingDesk tone(double a) {
+        HearingDesk desk = new HearingDesk();
+        desk.wave(32, 6, a);
+        return desk;
+    }
+
+    private static double bandTwo(HearingDesk desk) {
+        return 0.0 + desk.power(0, 5) + desk.power(0, 6) + desk.power(0, 7) + desk.power(0, 8);
     }
 
     private static void exactAnswers() {

@@ -46,6 +46,7 @@ final class PlainModel {
     }
 
     static double ln(double x) {
+        state(x > 0.0 && x < Double.POSITIVE_INFINITY);
         int k = 0;
         while (x >= 1.5) {
             x = x / 2.0;

@@ -12,6 +12,7 @@ public final class WordsTest {
         letters();
         equalOnesTheFirst();
         limitAtItsEdge();
+        firstLimit();
         wordsStayAsTheyWereHeard();
         times();
         refused();
@@ -62,8 +63,30 @@ public final class WordsTest {
     }
 
     private static void thresholdAtItsEdge() {
+        HearingDesk desk = tone(1.0);
+        double loudness = loudness(desk);
+        desk.ways(loudness, 1, 1.0);
+        due.same("LOUD at the THRESHOLD", desk.count(6), 1);
+        due.same("hear() at the THRESHOLD", desk.hear(), 1);
+        desk.ways(Math.nextUp(loudness), 1, 1.0);
+        due.same("LOUD below the THRESHOLD", desk.count(6), 0);
+        due.same("hear() below the THRESHOLD", desk.hear(), 0);
+        due.same("count(5) is that of the latest", desk.count(5), 0);
+        HearingDesk even = new HearingDesk();
+        even.wave(32, 0, 1e-6);
+        due.same("frequency 0 is in no band", even.count(6), 0);
+        double a = Edge.at(0.01, 0.001, 1.0, x -> loudness(tone(x)));
+        due.same("LOUD at the first THRESHOLD", tone(a).count(6), 1);
+        due.same("LOUD below the first THRESHOLD", tone(Math.nextDown(a)).count(6), 0);
+    }
+
+    private static HearingDesk tone(double a) {
         HearingDesk desk = new HearingDesk();
-        desk.wave(32, 4, 1.0);
+        desk.wave(32, 4, a);
+        return desk;
+    }
+
+    private static double loudness(HearingDesk desk) {
         double loudness = 0.0;
         int[] lowest = {1, 3, 5, 9, 17};
         for (int b = 0; b < 4; b++) {
@@ -73,22 +96,7 @@ public final class WordsTest {
             }
             loudness = loudness + sum;
         }
-        desk.ways(loudness, 1, 1.0);
-        due.same("LOUD at the THRESHOLD", desk.count(6), 1);
-        due.same("hear() at the THRESHOLD", desk.hear(), 1);
-        desk.ways(Math.nextUp(loudness), 1, 1.0);
-        due.same("LOUD below the THRESHOLD", desk.count(6), 0);
-        due.same("hear() below the THRESHOLD", desk.hear(), 0);
-        due.same("count(5) is that of the latest", desk.count(5), 0);
-        // the sum of a tone is 96 a a: about 0.01 at a = 0.0102
-        for (double a : new double[] {0.0100, 0.0104}) {
-            HearingDesk other = new HearingDesk();
-            other.wave(32, 4, a);
-            due.same("the first THRESHOLD at " + a, other.count(6), 96 * a * a >= 0.01 ? 1 : 0);
-        }
-        HearingDesk even = new HearingDesk();
-        even.wave(32, 0, 1e-6);
-        due.same("frequency 0 is in no band", even.count(6), 0);
+        return loudness;
     }
 
     private static void noFrame() {
@@ -228,6 +236,23 @@ public final class WordsTest {
         desk.ways(0.01, 2, Double.NaN);
         desk.hear();
         due.same("nothing is at most what is no number", desk.word(0, 0), 63);
+    }
+
+    private static void firstLimit() {
+        double a = Edge.at(Math.nextUp(4.0), 1.0, 100.0, x -> learnedAndHeard(x).cost(0));
+        due.near("the edge is found", learnedAndHeard(a).cost(0), 4.0, 1e-9);
+        due.same("above the first LIMIT", learnedAndHeard(a).word(0, 0), 63);
+        due.same("at most the first LIMIT", learnedAndHeard(Math.nextDown(a)).word(0, 0), 97);
+    }
+
+    /** A tone that was learned at 1.0 and is heard at a. */
+    private static HearingDesk learnedAndHeard(double a) {
+        HearingDesk desk = tone(1.0);
+        desk.learn(97, 0, 1);
+        desk.clear();
+        desk.wave(32, 4, a);
+        desk.hear();
+        return desk;
     }
 
     private static void wordsStayAsTheyWereHeard() {
