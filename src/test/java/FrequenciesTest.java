@@ -84,7 +84,7 @@ public final class FrequenciesTest {
         double floor = PlainModel.ln(1e-10);
         for (double bound : new double[] {Math.nextUp(1e-10), 0.75, 1.5, 3.0, 0.375}) {
             double a = Edge.at(bound, 1e-7, 10.0, x -> bandTwo(tone(x)));
-            for (double x : new double[] {a, Math.nextDown(a), Math.nextUp(a), 0.999 * a, 1.001 * a}) {
+            for (double x : new double[] {a, Math.nextDown(a), Math.nextUp(a), 1.00000002 * a, 0.999 * a, 1.001 * a}) {
                 HearingDesk desk = tone(x);
                 double sum = bandTwo(desk);
                 due.same("level(0, 2) of " + x, desk.level(0, 2), sum > 1e-10 ? PlainModel.ln(sum) : floor);

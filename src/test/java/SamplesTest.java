@@ -107,6 +107,7 @@ public final class SamplesTest {
             due.same("wave(64, 1, " + a + ")", desk.wave(64, 1, a), 64);
             due.same("sample(0) of " + a, desk.sample(0), a);
             due.same("sample(16) of " + a, desk.sample(16), a * PlainModel.c(16));
+            due.same("sample(8) of " + a + " is 0.0", a == a ? desk.sample(8) + 0.0 : 0.0, 0.0);
             desk.wave(64, 0, 1.0);
             desk.learn(97, 0, 3);
             for (int f = 0; f < desk.count(2); f++) {
