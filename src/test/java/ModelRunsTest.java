@@ -65,7 +65,12 @@ public final class ModelRunsTest {
             case 13: { int k = about(0, 7); both(name + "forget", x -> x.forget(k)); break; }
             case 14: { int k = about(0, 4); int j = about(0, 4); both(name + "warp", x -> x.warp(k, j)); break; }
             case 15: case 16: both(name + "hear", x -> x.hear()); break;
-            case 17: case 18: { int k = about(0, 3); int w = about(0, 5); both(name + "word", x -> x.word(k, w)); break; }
+            case 17: case 18: {
+                int k = about(0, 3);
+                int what = about(0, 5);
+                both(name + "word", x -> x.word(k, what));
+                break;
+            }
             case 19: { int k = about(0, 3); both(name + "cost", x -> x.cost(k)); break; }
             default: { int what = about(0, 6); both(name + "count", x -> x.count(what)); break; }
         }
